@@ -90,6 +90,8 @@ public final class AskTest {
         Check.due("the last but one tells all", x.ask(), 4);
         DugBySaid y = Check.hilled("m9,m2,m3,m9;9");
         Check.due("the end of a short chain", y.ask(), 3);
+        x.heard(0, 0);
+        Check.due("who began is known, so the first", x.ask(), 0);
         y.heard(3, NONE);
         Check.due("one is left, so the first", y.ask(), 0);
     }

@@ -4,6 +4,7 @@ public final class ImageTest {
 
     public static void main(String[] args) {
         restoresAll();
+        restoresAsked();
         latestImage();
         notInTheImage();
         restoreRefusals();
@@ -50,7 +51,24 @@ public final class ImageTest {
         x.tell(2, 1);
         Check.due("restore() again", x.restore(), 2);
         Check.due("all is as it was again", x.digest(), before);
-        Check.due("what is asked is as it was", x.began(), busy().began());
+    }
+
+    private static void restoresAsked() {
+        DugBySaid x = Check.hilled("m1,m2,m3,m9;9");
+        x.heard(3, 2);
+        x.heard(2, 1);
+        x.image();
+        x.forget();
+        x.heard(0, 0);
+        x.heard(1, 1);
+        Check.due("0 began", x.began(), 1);
+        x.restore();
+        Check.due("1 began, as was asked then", x.began(), 2);
+        x.forget();
+        x.heard(3, 1);
+        x.heard(2, 0);
+        x.restore();
+        Check.due("1 again, though other days were told", x.began(), 2);
     }
 
     private static void latestImage() {
@@ -119,6 +137,13 @@ public final class ImageTest {
         Check.due("digest() with letters", x.digest(), Check.digestOf(x, "m1,g"));
         DugBySaid none = Check.paged("m1");
         Check.due("digest() without a hill", none.digest(), Check.digestOf(none, "m1"));
+        // Here the four numbers of AIM are all others, so none can stand for another.
+        DugBySaid aimed = Check.hilled("c9,p9,c9,m9;9");
+        Check.due("aim(3, 0)", aimed.aim(3, 0), 2);
+        Check.due("aim(3, 1)", aimed.aim(3, 1), 9);
+        Check.due("aim(7, 0)", aimed.aim(7, 0), 4);
+        Check.due("aim(7, 1)", aimed.aim(7, 1), 15);
+        Check.due("digest() of aims", aimed.digest(), Check.digestOf(aimed, ""));
         Check.due("digest() of a new object", new DugBySaid().digest(), digestOfNew());
     }
 
