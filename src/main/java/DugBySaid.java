@@ -306,14 +306,17 @@ public final class DugBySaid {
 
     public long digest() {
         long h = 1069L;
-        h = withPeople(h);
-        h = withTunnels(h);
-        h = mixed(h, aim(3, 0));
-        h = mixed(h, aim(3, 1));
-        h = mixed(h, aim(7, 0));
-        h = mixed(h, aim(7, 1));
-        h = mixed(h, began());
-        h = mixed(h, ask());
+        // Without a HILL there are no such numbers at all, and a refusal does not stand for one.
+        if (ground.isThere()) {
+            h = withPeople(h);
+            h = withTunnels(h);
+            h = mixed(h, aim(3, 0));
+            h = mixed(h, aim(3, 1));
+            h = mixed(h, aim(7, 0));
+            h = mixed(h, aim(7, 1));
+            h = mixed(h, began());
+            h = mixed(h, ask());
+        }
         h = withLetters(h);
         for (int what = 0; what < COUNT_WHATS; what++) {
             h = mixed(h, count(what));
@@ -333,9 +336,6 @@ public final class DugBySaid {
 
     private long withTunnels(long before) {
         long h = before;
-        if (!ground.isThere()) {
-            return h;
-        }
         for (int tunnel = 0; tunnel < TUNNELS; tunnel++) {
             for (int what = 0; what < TUNNEL_WHATS; what++) {
                 h = mixed(h, tunnel(tunnel, what));

@@ -46,14 +46,25 @@ final class Check {
 
     /** The digest as promise 22 builds it, of what the other calls answer; letters is what THE PAGE holds. */
     static long digestOf(DugBySaid x, String letters) {
-        long h = 1069;
-        int people = x.count(0);
-        for (int person = 0; person < people; person++) {
+        long h = x.count(0) > 0 ? withHill(x, 1069) : 1069;
+        for (int at = 0; at < letters.length(); at++) {
+            h = 31 * h + letters.charAt(at);
+        }
+        for (int what = 0; what <= 8; what++) {
+            h = 31 * h + x.count(what);
+        }
+        return h;
+    }
+
+    /** The numbers of the digest that there are only with a HILL. */
+    private static long withHill(DugBySaid x, long before) {
+        long h = before;
+        for (int person = 0; person < x.count(0); person++) {
             for (int what = 0; what <= 5; what++) {
                 h = 31 * h + x.person(person, what);
             }
         }
-        for (int tunnel = 0; tunnel < 3 && people > 0; tunnel++) {
+        for (int tunnel = 0; tunnel < 3; tunnel++) {
             for (int what = 0; what <= 4; what++) {
                 h = 31 * h + x.tunnel(tunnel, what);
             }
@@ -63,13 +74,6 @@ final class Check {
             h = 31 * h + x.aim(length, 1);
         }
         h = 31 * h + x.began();
-        h = 31 * h + x.ask();
-        for (int at = 0; at < letters.length(); at++) {
-            h = 31 * h + letters.charAt(at);
-        }
-        for (int what = 0; what <= 8; what++) {
-            h = 31 * h + x.count(what);
-        }
-        return h;
+        return 31 * h + x.ask();
     }
 }

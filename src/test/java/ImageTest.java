@@ -135,8 +135,7 @@ public final class ImageTest {
         Check.due("digest() changes nothing", x.digest(), Check.digestOf(x, ""));
         Check.write(x, "m1,g");
         Check.due("digest() with letters", x.digest(), Check.digestOf(x, "m1,g"));
-        DugBySaid none = Check.paged("m1");
-        Check.due("digest() without a hill", none.digest(), Check.digestOf(none, "m1"));
+        digestsWithoutHill();
         // Here the four numbers of AIM are all others, so none can stand for another.
         DugBySaid aimed = Check.hilled("c9,p9,c9,m9;9");
         Check.due("aim(3, 0)", aimed.aim(3, 0), 2);
@@ -144,18 +143,20 @@ public final class ImageTest {
         Check.due("aim(7, 0)", aimed.aim(7, 0), 4);
         Check.due("aim(7, 1)", aimed.aim(7, 1), 15);
         Check.due("digest() of aims", aimed.digest(), Check.digestOf(aimed, ""));
-        Check.due("digest() of a new object", new DugBySaid().digest(), digestOfNew());
     }
 
-    /** Without a HILL: aim() four times, began() and ask() tell STATE; then nine counts of 0. */
-    private static long digestOfNew() {
+    /** Without a HILL only letters of THE PAGE and the nine counts go in, no refusal. */
+    private static void digestsWithoutHill() {
+        Check.due("digest() of a new object", new DugBySaid().digest(), 28263956089757299L);
+        DugBySaid none = Check.paged("m1");
         long h = 1069;
-        for (int call = 0; call < 6; call++) {
-            h = 31 * h - 103;
+        for (int number : new int[] {'m', '1', 0, 0, 0, 0, 0, 0, 0, 2, 0}) {
+            h = 31 * h + number;
         }
-        for (int what = 0; what <= 8; what++) {
-            h = 31 * h;
-        }
-        return h;
+        Check.due("digest() without a hill", none.digest(), h);
+        Check.due("hill() of no hill", none.hill(), STATE);
+        Check.due("digest() behind a refused hill", none.digest(), h);
+        none.blank();
+        Check.due("digest() behind blank()", none.digest(), 28263956089757299L);
     }
 }

@@ -422,10 +422,12 @@ final class Model {
                 numbers.add(person(person, what));
             }
         }
-        for (int at = 0; at < 15 && !kinds.isEmpty(); at++) {
-            numbers.add(tunnel(at / 5, at % 5));
+        if (!kinds.isEmpty()) {
+            for (int at = 0; at < 15; at++) {
+                numbers.add(tunnel(at / 5, at % 5));
+            }
+            numbers.addAll(List.of(aim(3, 0), aim(3, 1), aim(7, 0), aim(7, 1), began(), ask()));
         }
-        numbers.addAll(List.of(aim(3, 0), aim(3, 1), aim(7, 0), aim(7, 1), began(), ask()));
         page.chars().forEach(numbers::add);
         for (int what = 0; what <= 8; what++) {
             numbers.add(count(what));
