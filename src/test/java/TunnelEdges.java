@@ -11,6 +11,7 @@ final class TunnelEdges {
         yardsForTheFirstTime();
         noughtAtLeast();
         noLongerThanTheRiver();
+        denialsAheadOfTheRiver();
         butIfAPriestHeard();
         heardLast();
         notHeardBefore();
@@ -90,6 +91,31 @@ final class TunnelEdges {
         Check.due("denied: 10 yards", nine.deny(0), 9);
         Check.due("denied: 9 yards", nine.deny(0), 9);
         Check.due("denied: 8 yards", nine.deny(0), 8);
+    }
+
+    /** The whole sentence, in its order: YARDS, less denials, 0 at least, the RIVER. */
+    private static void denialsAheadOfTheRiver() {
+        Doc.says("Terms", "all YARDS of those who HEARD of it together, less how often it was DENIED; 0 at least;"
+                + " no longer than the RIVER tells, but if a PRIEST has HEARD of it.");
+        for (int river = 1; river <= 9; river++) {
+            for (int told = 1; told <= 6; told++) {
+                deniesOneByOne("c9,c9,c9,c9,c9,c9;" + river, told, river);
+                deniesOneByOne("p9,c9,c9,c9,c9,c9;" + river, told, 12);
+            }
+        }
+    }
+
+    private static void deniesOneByOne(String hill, int told, int limit) {
+        DugBySaid x = Check.hilled(hill);
+        for (int person = 0; person < told; person++) {
+            x.tell(0, person);
+        }
+        for (int denials = 1; denials <= 9; denials++) {
+            int due = Math.min(Math.max(2 * told - denials, 0), limit);
+            String where = " of " + hill + ", told to " + told + ", denial " + denials;
+            Check.due("deny(0)" + where, x.deny(0), due);
+            Check.due("tunnel(0, 4)" + where, x.tunnel(0, 4), due);
+        }
     }
 
     private static void butIfAPriestHeard() {
